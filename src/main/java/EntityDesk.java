@@ -147,11 +147,6 @@ public final class EntityDesk {
         return name >= 0 && name < NAMES;
     }
 
-    private static boolean mayBe(int character) {
-        return character == 9 || character == 10 || character == 13
-            || character >= 32 && character <= 255;
-    }
-
     private void beginReading() {
         fault = NO_FAULT;
         faultPlace = NONE;
@@ -162,6 +157,17 @@ public final class EntityDesk {
     private void fail(int what, int where) {
         fault = what;
         faultPlace = where;
+    }
+
+    /** Reads one character more: what it comes to; a reference that is wrong in itself is a fault. */
+    private int readOn(int character, int at) {
+        int what = reader.read(character);
+        if (what == Reader.BROKEN) {
+            fail(BROKEN_REFERENCE, at);
+        } else if (what == Reader.FORBIDDEN) {
+            fail(NO_CHARACTER, outerPlace);
+        }
+        return what;
     }
 
     private void draftText(int told) {
@@ -178,27 +184,15 @@ public final class EntityDesk {
     }
 
     private void draftCharacter(int character, int at) {
-        switch (reader.read(character)) {
-            case Reader.ITSELF:
-                entities.draft(character);
-                break;
-            case Reader.CHARACTER:
-                if (mayBe(reader.number)) {
-                    entities.draft(reader.number);
-                } else {
-                    fail(NO_CHARACTER, outerPlace);
-                }
-                break;
-            case Reader.ENTITY:
-                entities.draft('&');
-                entities.draft('a' + reader.name);
-                entities.draft(';');
-                break;
-            case Reader.BROKEN:
-                fail(BROKEN_REFERENCE, at);
-                break;
-            default:
-                break;
+        int what = readOn(character, at);
+        if (what == Reader.ITSELF) {
+            entities.draft(character);
+        } else if (what == Reader.CHARACTER) {
+            entities.draft(reader.number);
+        } else if (what == Reader.ENTITY) {
+            entities.draft('&');
+            entities.draft('a' + reader.name);
+            entities.draft(';');
         }
     }
 
@@ -220,25 +214,13 @@ public final class EntityDesk {
     }
 
     private void goOverCharacter(int character, int at, int depth) {
-        switch (reader.read(character)) {
-            case Reader.ITSELF:
-                give(character);
-                break;
-            case Reader.CHARACTER:
-                if (mayBe(reader.number)) {
-                    give(reader.number);
-                } else {
-                    fail(NO_CHARACTER, outerPlace);
-                }
-                break;
-            case Reader.ENTITY:
-                goInto(reader.name, depth + 1);
-                break;
-            case Reader.BROKEN:
-                fail(BROKEN_REFERENCE, at);
-                break;
-            default:
-                break;
+        int what = readOn(character, at);
+        if (what == Reader.ITSELF) {
+            give(character);
+        } else if (what == Reader.CHARACTER) {
+            give(reader.number);
+        } else if (what == Reader.ENTITY) {
+            goInto(reader.name, depth + 1);
         }
     }
 
@@ -346,7 +328,8 @@ public final class EntityDesk {
         private static final int GOES_ON = 1;
         private static final int CHARACTER = 2;
         private static final int ENTITY = 3;
-        private static final int BROKEN = 4;
+        private static final int FORBIDDEN = 4;
+        private static final int BROKEN = 5;
 
         private static final int OUTSIDE = 0;
         private static final int BEHIND_AMPERSAND = 1;
@@ -386,11 +369,11 @@ public final class EntityDesk {
                 case BEHIND_HASH:
                     return character == 'x' ? goOn(BEHIND_X) : readDigit(character, 10, IN_DECIMAL);
                 case IN_DECIMAL:
-                    return character == ';' ? finish(CHARACTER) : readDigit(character, 10, IN_DECIMAL);
+                    return character == ';' ? finishNumber() : readDigit(character, 10, IN_DECIMAL);
                 case BEHIND_X:
                     return readDigit(character, 16, IN_HEX);
                 case IN_HEX:
-                    return character == ';' ? finish(CHARACTER) : readDigit(character, 16, IN_HEX);
+                    return character == ';' ? finishNumber() : readDigit(character, 16, IN_HEX);
                 default:
                     return character == '&' ? goOn(BEHIND_AMPERSAND) : ITSELF;
             }
@@ -428,6 +411,15 @@ public final class EntityDesk {
                 return character - 'A' + 10;
             }
             return NONE;
+        }
+
+        private static boolean mayBe(int character) {
+            return character == 9 || character == 10 || character == 13
+                || character >= 32 && character <= 255;
+        }
+
+        private int finishNumber() {
+            return finish(mayBe(number) ? CHARACTER : FORBIDDEN);
         }
 
         private int goOn(int next) {

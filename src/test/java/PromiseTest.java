@@ -622,7 +622,7 @@ public final class PromiseTest {
         due("z 2", desk.text(25, 2), 'z');
         int[] none = {-1, 2, 3, 2000, Integer.MIN_VALUE, Integer.MAX_VALUE};
         for (int i : none) {
-            due("a " + i, desk.text(0, i), i == -1 || i >= 2 || i < 0 ? -1 : 0);
+            due("a " + i, desk.text(0, i), -1);
             due("b " + i, desk.text(1, i), -1);
         }
         int[] names = {-1, 26, 97, Integer.MIN_VALUE, Integer.MAX_VALUE};
