@@ -7,7 +7,7 @@ import java.util.TreeMap;
 import java.util.regex.Matcher;
 import java.util.regex.Pattern;
 
-/** Runs of calls, the same at every start, against a second reading of the document. */
+/** Runs of calls, the same at every start, against the document written once more in another way. */
 public final class ModelTest {
     private static final int RUNS = 6000;
     private static final int MOST_CALLS = 512;
