@@ -1,7 +1,5 @@
 /** The promises of the document one by one: ordinary inputs, the edges it names, wrong inputs. */
-public final class PromiseTest {
-    private static int wrong = 0;
-
+public final class PromiseTest extends DeskTest {
     public static void main(String[] args) {
         newObject();
         putsBytesInOrder();
@@ -27,86 +25,18 @@ public final class PromiseTest {
         textOfEntities();
         counts();
         objectsAreApart();
-        System.out.println(wrong == 0 ? "all answers are as due" : wrong + " answers are not as due");
-        if (wrong != 0) {
-            System.exit(1);
-        }
-    }
-
-    private static void due(String what, long got, long want) {
-        if (got != want) {
-            wrong++;
-            System.out.println(what + ": answered " + got + ", due is " + want);
-        }
-    }
-
-    private static void due(String what, String got, String want) {
-        if (!got.equals(want)) {
-            wrong++;
-            System.out.println(what + ": answered '" + got + "', due is '" + want + "'");
-        }
-    }
-
-    private static void tell(EntityDesk desk, String text) {
-        for (int from = 0; from < text.length(); from += 8) {
-            int n = Math.min(8, text.length() - from);
-            long v = 0;
-            for (int i = from; i < from + n; i++) {
-                v = v << 8 | text.charAt(i);
-            }
-            due("put of " + text, desk.put(v, n) ? 1 : 0, 1);
-        }
-    }
-
-    private static int declare(EntityDesk desk, char name, String text) {
-        tell(desk, text);
-        return desk.declare(name - 'a');
-    }
-
-    private static int expand(EntityDesk desk, String text, int limit) {
-        tell(desk, text);
-        return desk.expand(limit);
-    }
-
-    private static void declares(EntityDesk desk, char name, String text, int want, int place) {
-        String what = "declare " + name + " '" + text + "'";
-        due(what, declare(desk, name, text), want);
-        due(what + ", place", desk.place(), place);
-        due(what + ", in hand", desk.count(3), 0);
-    }
-
-    private static void expands(EntityDesk desk, String text, int limit, int want, int place) {
-        String what = "expand '" + text + "' to " + limit;
-        due(what, expand(desk, text, limit), want);
-        due(what + ", place", desk.place(), place);
-        due(what + ", in hand", desk.count(3), 0);
-    }
-
-    private static String given(EntityDesk desk) {
-        StringBuilder all = new StringBuilder();
-        for (int i = 0; desk.given(i) != -1; i++) {
-            all.append((char) desk.given(i));
-        }
-        return all.toString();
-    }
-
-    private static String text(EntityDesk desk, char name) {
-        StringBuilder all = new StringBuilder();
-        for (int i = 0; desk.text(name - 'a', i) != -1; i++) {
-            all.append((char) desk.text(name - 'a', i));
-        }
-        return all.toString();
+        end();
     }
 
     /** The first and last characters alone: an object is used for 512 calls at most. */
-    private static void textIsAll(EntityDesk desk, char name, int length) {
+    private static void textIsAll(Desk desk, char name, int length) {
         due("first of " + name, desk.text(name - 'a', 0), name);
         due("last of " + name, desk.text(name - 'a', length - 1), name);
         due("behind " + name, desk.text(name - 'a', length), -1);
     }
 
     private static void newObject() {
-        EntityDesk desk = new EntityDesk();
+        Desk desk = new Desk();
         for (int what = 0; what <= 5; what++) {
             due("new: count(" + what + ")", desk.count(what), 0);
         }
@@ -118,15 +48,15 @@ public final class PromiseTest {
         for (char name = 'a'; name <= 'z'; name++) {
             expands(desk, "&" + name + ";", 100000, -6, 0);
         }
-        due("new: expand of nothing", new EntityDesk().expand(0), 0);
-        due("new: declare of nothing", new EntityDesk().declare(0), 0);
+        due("new: expand of nothing", new Desk().expand(0), 0);
+        due("new: declare of nothing", new Desk().declare(0), 0);
     }
 
     private static void putsBytesInOrder() {
         long bytes = 0x8142434445464748L;
         String whole = "\u0081BCDEFGH";
         for (int n = 1; n <= 8; n++) {
-            EntityDesk desk = new EntityDesk();
+            Desk desk = new Desk();
             tell(desk, "<");
             due("put of " + n, desk.put(bytes, n) ? 1 : 0, 1);
             due("put of " + n + ": in hand", desk.count(3), n + 1);
@@ -134,7 +64,7 @@ public final class PromiseTest {
             due("put of " + n + ": given", desk.expand(0), n + 2);
             due("put of " + n, given(desk), "<" + whole.substring(8 - n) + ">");
         }
-        EntityDesk desk = new EntityDesk();
+        Desk desk = new Desk();
         desk.put(-1L, 8);
         desk.put(Long.MIN_VALUE, 8);
         due("bytes of any value", desk.expand(0), 16);
@@ -145,7 +75,7 @@ public final class PromiseTest {
     }
 
     private static void putRefuses() {
-        EntityDesk desk = new EntityDesk();
+        Desk desk = new Desk();
         int[] amounts = {0, -1, 9, 64, Integer.MIN_VALUE, Integer.MAX_VALUE};
         for (int n : amounts) {
             due("put of " + n, desk.put(65L, n) ? 1 : 0, 0);
@@ -172,7 +102,7 @@ public final class PromiseTest {
     }
 
     private static void declareKeepsTexts() {
-        EntityDesk desk = new EntityDesk();
+        Desk desk = new Desk();
         declares(desk, 'a', "first", 5, -1);
         declares(desk, 'z', "last one", 8, -1);
         declares(desk, 'm', "", 0, -1);
@@ -194,7 +124,7 @@ public final class PromiseTest {
             {"&#60;&#59;", "<;"}, {"a;b#c", "a;b#c"}, {"&#x26;x", "&x"},
             {"&#xa;&#xD;&#x9;&#x20;", "\n\r\t "},
         };
-        EntityDesk desk = new EntityDesk();
+        Desk desk = new Desk();
         char name = 'a';
         for (String[] row : told) {
             declares(desk, name, row[0], row[1].length(), -1);
@@ -223,7 +153,7 @@ public final class PromiseTest {
 
     private static void declareFaults() {
         for (Object[] row : FAULTY) {
-            EntityDesk desk = new EntityDesk();
+            Desk desk = new Desk();
             declares(desk, 'k', (String) row[0], (Integer) row[1], (Integer) row[2]);
             due(row[0] + ": entities", desk.count(0), 0);
             due(row[0] + ": characters", desk.count(1), 0);
@@ -231,7 +161,7 @@ public final class PromiseTest {
             declares(desk, 'k', "later", 5, -1);
             due(row[0] + ": then", text(desk, 'k'), "later");
         }
-        EntityDesk desk = new EntityDesk();
+        Desk desk = new Desk();
         String long0 = "&#" + "0".repeat(397);
         declares(desk, 'a', long0 + ";", -9, 0);
         declares(desk, 'a', long0, -3, 399);
@@ -241,7 +171,7 @@ public final class PromiseTest {
     }
 
     private static void declareFirstCounts() {
-        EntityDesk desk = new EntityDesk();
+        Desk desk = new Desk();
         declares(desk, 'c', "one", 3, -1);
         declares(desk, 'c', "two and more", -100, -1);
         due("first", text(desk, 'c'), "one");
@@ -256,7 +186,7 @@ public final class PromiseTest {
     }
 
     private static void declareRoom() {
-        EntityDesk desk = new EntityDesk();
+        Desk desk = new Desk();
         for (char name = 'a'; name <= 'd'; name++) {
             declares(desk, name, ("" + name).repeat(400), 400, -1);
         }
@@ -289,7 +219,7 @@ public final class PromiseTest {
     }
 
     private static void declareRefuses() {
-        EntityDesk desk = new EntityDesk();
+        Desk desk = new Desk();
         expands(desk, "ab&", 0, -3, 3);
         tell(desk, "stays");
         int[] names = {-1, 26, 97, Integer.MIN_VALUE, Integer.MAX_VALUE};
@@ -304,7 +234,7 @@ public final class PromiseTest {
     }
 
     private static void expandGives() {
-        EntityDesk desk = new EntityDesk();
+        Desk desk = new Desk();
         expands(desk, "", 0, 0, -1);
         expands(desk, "plain; #x\u0000\u00ff", 0, 11, -1);
         due("plain", given(desk), "plain; #x\u0000\u00ff");
@@ -324,7 +254,7 @@ public final class PromiseTest {
     }
 
     private static void expandCharacterReferences() {
-        EntityDesk desk = new EntityDesk();
+        Desk desk = new Desk();
         declare(desk, 'a', "text");
         expands(desk, "&#38;a;", 0, 3, -1);
         due("begins no reference", given(desk), "&a;");
@@ -350,13 +280,13 @@ public final class PromiseTest {
             boolean may = number == 9 || number == 10 || number == 13 || number >= 32 && number <= 255;
             expands(desk, "&#" + number + ";", 0, may ? 1 : -9, may ? -1 : 0);
             due("number " + number, desk.given(0), may ? number : -1);
-            desk = number % 50 == 49 ? new EntityDesk() : desk;
+            desk = number % 50 == 49 ? new Desk() : desk;
         }
     }
 
     private static void expandFaultsInHand() {
         for (Object[] row : FAULTY) {
-            EntityDesk desk = new EntityDesk();
+            Desk desk = new Desk();
             expands(desk, (String) row[0], 9, (Integer) row[1], (Integer) row[2]);
             due(row[0] + ": given", given(desk), "");
             expands(desk, "then", 0, 4, -1);
@@ -372,7 +302,7 @@ public final class PromiseTest {
             }
             boolean ends = (Integer) row[1] == -3 && (Integer) row[2] == ((String) row[0]).length();
             int want = ends ? -14 : (Integer) row[1];
-            EntityDesk desk = new EntityDesk();
+            Desk desk = new Desk();
             declares(desk, 'k', told, ((String) row[0]).length(), -1);
             declare(desk, 'l', "ab&k;cd");
             declare(desk, 'e', "");
@@ -383,7 +313,7 @@ public final class PromiseTest {
             due(row[0] + ": put in", desk.count(4), 2);
             expands(desk, "&e;then", 0, 4, -1);
         }
-        EntityDesk desk = new EntityDesk();
+        Desk desk = new Desk();
         declare(desk, 'b', "&#38;b");
         expands(desk, "&b;;", 99, -14, 0);
         declare(desk, 'n', "xx&y;");
@@ -391,7 +321,7 @@ public final class PromiseTest {
     }
 
     private static void expandRings() {
-        EntityDesk desk = new EntityDesk();
+        Desk desk = new Desk();
         declare(desk, 'a', "&a;");
         declare(desk, 'b', "-&c;");
         declare(desk, 'c', "-&d;");
@@ -413,18 +343,8 @@ public final class PromiseTest {
         expands(desk, "&c;", 99, -7, 0);
     }
 
-    /** Entities a .. of which each has the next one's reference alone, and the last a dot. */
-    private static EntityDesk chain(int links) {
-        EntityDesk desk = new EntityDesk();
-        for (int i = 0; i < links - 1; i++) {
-            declare(desk, (char) ('a' + i), "&" + (char) ('b' + i) + ";");
-        }
-        declare(desk, (char) ('a' + links - 1), ".");
-        return desk;
-    }
-
     private static void expandDepth() {
-        EntityDesk desk = chain(14);
+        Desk desk = chain(14, ".");
         expands(desk, "<&c;>", 999, 3, -1);
         due("12 deep", desk.count(5), 12);
         due("12 put in", desk.count(4), 12);
@@ -444,7 +364,7 @@ public final class PromiseTest {
     }
 
     private static void expandMeter() {
-        EntityDesk desk = new EntityDesk();
+        Desk desk = new Desk();
         declare(desk, 'a', "abc");
         declare(desk, 'b', "[&a;&a;]");
         declare(desk, 'e', "");
@@ -473,7 +393,7 @@ public final class PromiseTest {
     }
 
     private static void meterUpToItsHighest() {
-        EntityDesk desk = new EntityDesk();
+        Desk desk = new Desk();
         declare(desk, 'e', "");
         declare(desk, 'a', "&e;".repeat(133));
         declare(desk, 'b', "&a;".repeat(133));
@@ -488,7 +408,7 @@ public final class PromiseTest {
     }
 
     private static void expandMostGiven() {
-        EntityDesk desk = new EntityDesk();
+        Desk desk = new Desk();
         declare(desk, 'a', "a".repeat(375));
         declare(desk, 'b', "&a;".repeat(8));
         declare(desk, 'c', "&b;.");
@@ -518,7 +438,7 @@ public final class PromiseTest {
     }
 
     private static void expandOrderOfFaults() {
-        EntityDesk desk = chain(12);
+        Desk desk = chain(12, ".");
         expands(desk, "&z;", 0, -6, 0);
         declare(desk, 'z', "&z;");
         expands(desk, "&z;", 3, -7, 0);
@@ -526,11 +446,7 @@ public final class PromiseTest {
         expands(desk, "&y;&z;", 1, -15, 0);
         expands(desk, "&", 0, -3, 1);
 
-        desk = new EntityDesk();
-        for (char name = 'a'; name < 'l'; name++) {
-            declare(desk, name, "&" + (char) (name + 1) + ";");
-        }
-        declare(desk, 'l', "&y;");
+        desk = chain(12, "&y;");
         expands(desk, "&a;", 36, -6, 0);
         declare(desk, 'y', "y");
         expands(desk, "&a;", 36, -16, 0);
@@ -538,18 +454,14 @@ public final class PromiseTest {
         expands(desk, "&b;", 33, -15, 0);
         expands(desk, "&b;", 34, 1, -1);
 
-        desk = new EntityDesk();
-        for (char name = 'a'; name < 'l'; name++) {
-            declare(desk, name, "&" + (char) (name + 1) + ";");
-        }
-        declare(desk, 'l', "&a;");
+        desk = chain(12, "&a;");
         expands(desk, "&a;", 36, -7, 0);
         expands(desk, "&#0;&a;", 36, -9, 0);
         expands(desk, "&a;&#0;", 36, -7, 0);
     }
 
     private static void expandRefuses() {
-        EntityDesk desk = new EntityDesk();
+        Desk desk = new Desk();
         declare(desk, 'a', "abc");
         expands(desk, "..&a;", 9, 5, -1);
         declares(desk, 'b', "ab&", -3, 3);
@@ -570,7 +482,7 @@ public final class PromiseTest {
     }
 
     private static void placeOfTheLast() {
-        EntityDesk desk = new EntityDesk();
+        Desk desk = new Desk();
         expands(desk, "1234&", 9, -3, 5);
         desk.put(65L, 1);
         desk.put(65L, 9);
@@ -588,7 +500,7 @@ public final class PromiseTest {
     }
 
     private static void givenOfTheLast() {
-        EntityDesk desk = new EntityDesk();
+        Desk desk = new Desk();
         expands(desk, "abc", 9, 3, -1);
         int[] none = {-1, 3, 2999, 3000, Integer.MIN_VALUE, Integer.MAX_VALUE};
         for (int i : none) {
@@ -611,7 +523,7 @@ public final class PromiseTest {
     }
 
     private static void textOfEntities() {
-        EntityDesk desk = new EntityDesk();
+        Desk desk = new Desk();
         declare(desk, 'a', "ab");
         declare(desk, 'z', "\u0000\u00ffz");
         declare(desk, 'm', "");
@@ -636,7 +548,7 @@ public final class PromiseTest {
     }
 
     private static void counts() {
-        EntityDesk desk = new EntityDesk();
+        Desk desk = new Desk();
         declare(desk, 'a', "&#65;bc");
         declare(desk, 'b', "&a;&a;");
         tell(desk, "&b;-&a;");
@@ -670,8 +582,8 @@ public final class PromiseTest {
     }
 
     private static void objectsAreApart() {
-        EntityDesk one = new EntityDesk();
-        EntityDesk other = new EntityDesk();
+        Desk one = new Desk();
+        Desk other = new Desk();
         declare(one, 'a', "one");
         tell(one, "left");
         declares(other, 'a', "other", 5, -1);
